@@ -296,7 +296,7 @@ public final class LaidQuarrel {
         }
         hearAll();
         int full = fullOnes();
-        int best = bestLine(full, moods.at(guest, 0), 0);
+        int best = bestLine(said, full, moods.at(guest, 0), 0);
         if (k < 0) {
             return moodOf(best);
         }
@@ -686,27 +686,28 @@ public final class LaidQuarrel {
         return sum;
     }
 
-    private static int lift(Shelf moods, int guest, int by) {
-        int mood = heldMood(moods.at(guest, 0) + by);
-        moods.put(guest, mood);
+    private static int lift(Shelf guests, int guest, int by) {
+        int mood = heldMood(guests.at(guest, 0) + by);
+        guests.put(guest, mood);
         return mood;
     }
 
-    private void calmDown(Shelf moods, int years) {
-        for (int g = 0; g < moods.rows; g++) {
-            moods.put(g, nearer(moods.at(g, 0), held.calm() * years));
+    private void calmDown(Shelf guests, int years) {
+        int by = held.calm() * years;
+        for (int g = 0; g < guests.rows; g++) {
+            guests.put(g, nearer(guests.at(g, 0), by));
         }
     }
 
     /** The best order of those left: its last MOOD, and behind that three bits for each of the whole order. */
-    private int bestLine(int left, int mood, int order) {
+    private static int bestLine(Shelf said, int left, int mood, int order) {
         if (left == 0 || Integer.bitCount(left) > BOTTLES) {
             return mood + MOOD << 3 * BOTTLES | order;
         }
         int best = -1;
         for (int b = 0; b < said.rows; b++) {
             if (isIn(left, b)) {
-                int line = bestLine(left ^ 1 << b, heldMood(mood + said.at(b, 0)), order << 3 | b);
+                int line = bestLine(said, left ^ 1 << b, heldMood(mood + said.at(b, 0)), order << 3 | b);
                 // orders come as rows do, so of as great ones the first stays
                 if (best < 0 || moodOf(line) > moodOf(best)) {
                     best = line;
@@ -1054,18 +1055,26 @@ public final class LaidQuarrel {
         }
 
         private boolean readFactor(int open) {
-            int sign = text.at(place, 0);
-            if (sign == '!' || sign == '(') {
-                if (open >= OPEN) {
-                    return false;
-                }
-                place++;
-                if (sign == '(') {
-                    return readEither(open + 1) && takes(')');
-                }
-                return readFactor(open + 1) && parts.add('!', 0, 0);
+            int inside = open;
+            for (int n = open; n < OPEN && takes('!'); n++) {
+                inside++;
             }
-            if (!isLetter(sign)) {
+            if (!(text.at(place, 0) == '(' ? readBracket(inside) : readTest())) {
+                return false;
+            }
+            for (int n = open; n < inside; n++) {
+                parts.add('!', 0, 0);
+            }
+            return true;
+        }
+
+        private boolean readBracket(int open) {
+            return open < OPEN && takes('(') && readEither(open + 1) && takes(')');
+        }
+
+        private boolean readTest() {
+            int letter = text.at(place, 0);
+            if (!isLetter(letter)) {
                 return false;
             }
             place++;
@@ -1074,7 +1083,7 @@ public final class LaidQuarrel {
                 return false;
             }
             place++;
-            return readNumber() && parts.add(sign, than, number);
+            return readNumber() && parts.add(letter, than, number);
         }
 
         private static boolean isLetter(int sign) {

@@ -104,6 +104,8 @@ public final class BottlesTest {
         Check.due("7 not its QUARTER", x.of(0, 7), 0);
         x.set(0, 1, 2);
         Check.due("7 its QUARTER", x.of(0, 7), 4);
+        Check.due("7 n 0", x.row(0, 3, 0), 1);
+        Check.due("7 n 0 is kept", x.row(0, 3, 9), 0);
         Check.due("7 no bottle", x.row(2, 0, 10), LaidQuarrel.NONE);
         Check.due("7 k below", x.row(0, -1, 10), LaidQuarrel.NONE);
         Check.due("7 k above", x.row(0, 4, 0), LaidQuarrel.NONE);
@@ -145,6 +147,8 @@ public final class BottlesTest {
         Check.due("10 full ones", x.told(3), 5);
         Check.due("10 what these SAY", x.told(4), 35);
         Check.due("10 MOOD of all", x.told(5), -65);
+        x.set(0, 0, 3);
+        Check.due("10 what they SAY now, not in a YEAR", x.told(4), 35);
         Check.due("10 below", x.told(-1), -10001);
         Check.due("10 above", x.told(6), -10001);
     }

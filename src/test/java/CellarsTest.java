@@ -125,6 +125,10 @@ public final class CellarsTest {
         x.feed('x');
         Check.due("3 FULL ahead of a fault", x.cellar(), LaidQuarrel.FULL);
         Check.due("3 count", x.count(1), 5);
+        LaidQuarrel y = new LaidQuarrel();
+        Check.read(y, "calm 21;peace 22;sharpen 23 b=0;soften 24 b=0");
+        Check.due("3 calm stands apart", y.told(1), 21);
+        Check.due("3 peace stands apart", y.told(2), 22);
     }
 
     /** SOFT of a BOTTLE of 100 YEARS is five times the sum that stands in it. */

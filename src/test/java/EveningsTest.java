@@ -61,6 +61,16 @@ public final class EveningsTest {
         done("from how all is now", x, 14, 0);
         Check.due("30 below", x.done(-1), -10001);
         Check.due("30 above", x.done(2), -10001);
+        LaidQuarrel z = new LaidQuarrel();
+        z.bottle(0, 0, 70);
+        z.bottle(0, 0, 5);
+        z.evening(3, 1, 0);
+        done("hushed at once", z, 0, 70);
+        z.evening(0, 0, 0);
+        z.evening(0, 0, 0);
+        done("all get older", z, 0, 69);
+        z.evening(3, 0, 0);
+        done("all hushed", z, 0, 0);
         LaidQuarrel y = new LaidQuarrel();
         y.bottle(0, 0, 99);
         y.bottle(0, 0, 99);

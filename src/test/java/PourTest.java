@@ -32,6 +32,7 @@ public final class PourTest {
         LaidQuarrel y = of(60, 60, -50);
         Check.due("18 beyond 99 on the way", y.choose(0, 70), 7);
         Check.due("18 from 90", y.choose(1, 40), 4);
+        Check.due("18 all six", of(1, 2, 4, 8, 16, 32).choose(0, 63), 63);
         Check.due("18 without bottles", of().choose(0, 1), -5);
         Check.due("18 without bottles, as it is", of().choose(1, 90), 0);
     }
@@ -68,7 +69,8 @@ public final class PourTest {
         Check.due("20 two", of(90, 91).pair(), 1);
         Check.due("20 nearest", of(50, 10, -45, 3).pair(), 2);
         Check.due("20 nearest from below", of(50, 10, -14, 30).pair(), 12);
-        Check.due("20 the first of several", of(7, 2, -5, 8).pair(), 2);
+        Check.due("20 the first of several", of(7, 90, -5, 3).pair(), 2);
+        Check.due("20 the first of as near ones", of(50, 5, 5, 5).pair(), 12);
         LaidQuarrel x = of(50, 10, -45, 3, 70, 1);
         x.pour(0, 0);
         Check.due("20 not EMPTY ones", x.pair(), 35);

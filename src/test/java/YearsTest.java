@@ -61,6 +61,13 @@ public final class YearsTest {
         Check.read(y, "sharpen 20 y=4;soften 5 y=5");
         Check.due("15 a late most", y.when(0, 0), 25);
         Check.due("15 a late much", y.when(0, 1), 80);
+        y.set(0, 0, 39);
+        Check.due("15 the next", y.when(0, 0), 1);
+        y.set(0, 0, 1);
+        y.bottle(0, 0, 9);
+        y.set(1, 0, 1);
+        Check.read(y, "calm 1");
+        Check.due("15 at once", y.when(1, 1), 9);
     }
 
     private static void promise16Ripe() {
