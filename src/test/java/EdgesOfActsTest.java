@@ -103,9 +103,9 @@ public final class EdgesOfActsTest {
     }
 
     private static void whichBodiesRun() {
-        Edge.of(TERMS, "utters(..) and so on: the body of its KIND, or, if that has none, of the next KIND above that has "
-            + "one; super.utters(..): so from the KIND above the body's on; what stands in a body is done from the "
-            + "left on.");
+        Edge.of(TERMS, "utters(..) and so on: the body of its KIND, or, if that has none, of the next KIND above "
+            + "that has one; super.utters(..): so from the KIND above the body's on; what stands in a body is done "
+            + "from the left on.");
         acts(FEUD, UTTERS, 34, 11, 1);
         acts(FEUD, KEEPS, 31, 2, 11, 1);
         acts(LOVE, TELLS, -14, 3, 21, 2, 51, 1);
@@ -216,6 +216,26 @@ public final class EdgesOfActsTest {
         changes.add(x -> x.evening(-1, 0, 0));
         changes.add(x -> x.book(1, 7));
         changes.add(x -> x.book(-1, 0));
+        // as many as there were, but others
+        changes.add(x -> {
+            x.cellar();
+            "xxxxxx".chars().forEach(x::feed);
+        });
+        changes.add(x -> {
+            x.see(-1, 0, 0);
+            x.see(0, 1, 1);
+            x.see(2, 2, 2);
+        });
+        changes.add(x -> {
+            x.evening(-1, 0, 0);
+            x.evening(0, 0, 0);
+            x.evening(3, 2, 0);
+        });
+        changes.add(x -> {
+            x.book(-1, 0);
+            x.book(0, 1);
+            x.book(1, 2);
+        });
         return changes;
     }
 
@@ -328,7 +348,25 @@ public final class EdgesOfActsTest {
         }
     }
 
+    private static void toTheLastCall() {
+        Edge.of("What it is", "An object is used for at most 512 calls after it has been made");
+        LaidQuarrel x = new LaidQuarrel();
+        x.image();
+        for (int call = 2; call < 512; call += 2) {
+            Edge.due(x, 0, "bottle", call % 7, 3, 50);
+            Edge.due(x, 0, "undo");
+        }
+        Edge.due(x, 0, "bottle", 6, 3, 50);
+        LaidQuarrel y = Tables.saying(99, 50);
+        Check.read(y, "calm 1");
+        for (int call = 10; call < 512; call++) {
+            Edge.due(y, 0, "act", 0, UTTERS, 0);
+        }
+        Edge.due(y, 39, "on", 60, 20);
+    }
+
     public static void main(String[] args) {
+        toTheLastCall();
         bodies();
         actsWrap();
         whichBodiesRun();

@@ -12,15 +12,6 @@ public final class EdgesOfBottlesTest {
         return x;
     }
 
-    private static LaidQuarrel words(int mood, int... words) {
-        LaidQuarrel x = new LaidQuarrel();
-        for (int word : words) {
-            x.bottle(0, 0, word);
-        }
-        x.guest(mood);
-        return x;
-    }
-
     private static void bottlesAreSixAtMost() {
         Edge.of(TERMS, "BOTTLES are numbered from 0 on, 6 at most");
         LaidQuarrel x = new LaidQuarrel();
@@ -84,7 +75,7 @@ public final class EdgesOfBottlesTest {
         Edge.due(x, BAD, "set", 0, 1, -1);
         Edge.due(x, 0, "of", 0, 4);
         Edge.of(TERMS, "EMPTY, or not (not at first)");
-        LaidQuarrel y = words(0, 5, 6);
+        LaidQuarrel y = Tables.saying(0, 5, 6);
         Edge.due(y, 0, "of", 0, 5);
         Edge.due(y, 3, "told", 3);
         y.pour(0, 0);
@@ -229,7 +220,7 @@ public final class EdgesOfBottlesTest {
             {0, 99, 99}, {1, 99, 99}, {0, -99, -99}, {-1, -99, -99}, {-99, 99, 0}, {99, -99, 0}, {99, 99, 99},
             {-99, -99, -99}};
         for (int[] m : moodSaysThen) {
-            LaidQuarrel x = words(m[0], m[1], 33);
+            LaidQuarrel x = Tables.saying(m[0], m[1], 33);
             x.guest(-44);
             Edge.due(x, m[2], "pour", 0, 0);
             Edge.due(x, m[2], "mood", 0);
@@ -254,13 +245,13 @@ public final class EdgesOfBottlesTest {
             {-99, -98, 0, -98}, {-99, -98, -1, -99}, {-99, -98, -2, -99}, {50, 51, 49, 99}, {50, 52, 48, 99},
             {50, 52, 49, 99}, {-99, -99, 99, 0}};
         for (int[] w : wordsMoodThen) {
-            LaidQuarrel x = words(w[2], w[0], w[1], 7);
+            LaidQuarrel x = Tables.saying(w[2], w[0], w[1], 7);
             x.guest(-44);
             Edge.due(x, w[3], "both", 0, 1, 0);
             Edge.due(x, w[3], "mood", 0);
             Edge.due(x, -44, "mood", 1);
             Edge.due(x, 4, "told", 3);
-            LaidQuarrel turned = words(w[2], w[0], w[1], 7);
+            LaidQuarrel turned = Tables.saying(w[2], w[0], w[1], 7);
             Edge.due(turned, w[3], "both", 1, 0, 0);
             Edge.due(turned, 4, "told", 3);
         }
@@ -283,7 +274,7 @@ public final class EdgesOfBottlesTest {
         int[][] yearsNThen = {{0, 0, 0}, {0, 1, 1}, {0, 60, 60}, {139, 60, 199}, {140, 60, 199}, {138, 60, 198},
             {197, 1, 198}, {198, 1, 199}, {199, 1, 199}, {199, 60, 199}, {199, 0, 199}};
         for (int[] y : yearsNThen) {
-            LaidQuarrel x = words(0, 5, 6, 7);
+            LaidQuarrel x = Tables.saying(0, 5, 6, 7);
             x.set(0, 0, y[0]);
             x.set(1, 0, y[0]);
             x.pour(1, 0);
@@ -315,7 +306,7 @@ public final class EdgesOfBottlesTest {
         Edge.due(new LaidQuarrel(), 0, "bottle", 0, 0, -99);
         Edge.due(new LaidQuarrel(), 0, "bottle", 6, 9, 99);
         Edge.due(Tables.laid(), 3, "bottle", 3, 4, 5);
-        LaidQuarrel x = words(0, 1, 2, 3, 4, 5);
+        LaidQuarrel x = Tables.saying(0, 1, 2, 3, 4, 5);
         Edge.due(x, 5, "bottle", 5, 9, 42);
         int[] of = {5, 9, 42, 0, 0, 0, 0, 42};
         for (int what = 0; what < of.length; what++) {
@@ -412,7 +403,7 @@ public final class EdgesOfBottlesTest {
 
     private static void promise8() {
         Edge.of("Promise 8", "YEARS (0 .. 199; what 0), QUARTER (0 .. 3; 1) of one become n: what they were.");
-        LaidQuarrel x = words(0, 5, 6);
+        LaidQuarrel x = Tables.saying(0, 5, 6);
         int[][] whatNWas = {{0, 199, 0}, {0, 0, 199}, {0, 198, 0}, {1, 3, 0}, {1, 0, 3}, {1, 1, 0}, {1, 2, 1}};
         for (int[] a : whatNWas) {
             Edge.due(x, a[2], "set", 0, a[0], a[1]);
@@ -451,7 +442,7 @@ public final class EdgesOfBottlesTest {
         Edge.refused(Tables::full, -10001, "mood", 4);
         Edge.of("Promise 10", "What 0 YEAR, 1 CALM, 2 PEACE, 3 which are not EMPTY (bits), 4 what these SAY, "
             + "together, 5 MOOD of all, together.");
-        LaidQuarrel y = words(40, 99, -40, 99, 99, 99, 99);
+        LaidQuarrel y = Tables.saying(40, 99, -40, 99, 99, 99, 99);
         y.guest(99);
         y.guest(99);
         y.guest(99);
@@ -478,7 +469,7 @@ public final class EdgesOfBottlesTest {
 
     private static void promises11And12() {
         Edge.of("Promise 11", "One is POURED to one of GUESTS: MOOD then.");
-        LaidQuarrel x = words(5, 1, 2, 3, 4, 5, 6);
+        LaidQuarrel x = Tables.saying(5, 1, 2, 3, 4, 5, 6);
         x.guest(-5);
         Edge.due(x, 11, "pour", 5, 0);
         Edge.due(x, -4, "pour", 0, 1);
@@ -492,7 +483,7 @@ public final class EdgesOfBottlesTest {
         Edge.refused(Tables::laid, -10003, "pour", 1, 0);
         Edge.refused(Tables::laid, -10003, "pour", 1, 1);
         Edge.of("Promise 12", "Two are POURED TOGETHER to one of GUESTS: MOOD then.");
-        LaidQuarrel y = words(5, 10, 20, 30, 40, 50, 60);
+        LaidQuarrel y = Tables.saying(5, 10, 20, 30, 40, 50, 60);
         y.guest(-5);
         Edge.due(y, 40, "both", 0, 5, 0);
         Edge.due(y, 30, "both", 4, 1, 1);
@@ -508,7 +499,7 @@ public final class EdgesOfBottlesTest {
         Edge.refused(Tables::laid, -10003, "both", 1, 0, 0);
         Edge.refused(Tables::laid, -10003, "both", 0, 1, 0);
         Supplier<LaidQuarrel> bothEmpty = () -> {
-            LaidQuarrel z = words(5, 10, 20);
+            LaidQuarrel z = Tables.saying(5, 10, 20);
             z.both(0, 1, 0);
             return z;
         };

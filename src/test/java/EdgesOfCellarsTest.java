@@ -28,6 +28,16 @@ public final class EdgesOfCellarsTest {
         LaidQuarrel x = fed(hundred);
         Edge.due(x, LaidQuarrel.FULL, "feed", 'x');
         Edge.due(x, 0, "cellar");
+        LaidQuarrel many = read(hundred.replace("soften 1 b=1", "soften 1 b=x"));
+        many.bottle(0, 0, 0);
+        many.set(0, 0, 100);
+        for (int c = 0; c < 5; c++) {
+            hundred.replace("|b=1|b=1", "|b=0|b=x").chars().forEach(many::feed);
+            Edge.due(many, -10 - 19, "cellar");
+            hundred.replace("|b=1|b=1", c == 2 ? "|b=2|b=1" : "|b=0|b=1").chars().forEach(many::feed);
+            Edge.due(many, c, "cellar");
+            Edge.due(many, c == 2 ? 50 : 55, "of", 0, 6);
+        }
         Edge.fault(1, "c");
         Edge.fault(0, "\0");
         Edge.fault(0, "\u007f");
@@ -447,8 +457,8 @@ public final class EdgesOfCellarsTest {
     private static void calmAndPeaceAreTheLast() {
         Edge.of(TERMS, "CALM (0 without), PEACE (5 without): the last n.");
         String[] texts = {"calm 0", "calm 99", "peace 0", "peace 99", "soften 9 b=0", "sharpen 9 b=0",
-            "calm 3;calm 7", "calm 7;calm 0", "peace 3;peace 7", "peace 7;peace 0", "calm 1;peace 2;calm 3;sharpen 4 b=0",
-            "peace 9;calm 8;soften 7 b=0;peace 6"};
+            "calm 3;calm 7", "calm 7;calm 0", "peace 3;peace 7", "peace 7;peace 0",
+            "calm 1;peace 2;calm 3;sharpen 4 b=0", "peace 9;calm 8;soften 7 b=0;peace 6"};
         int[][] calmPeace = {{0, 5}, {99, 5}, {0, 0}, {0, 99}, {0, 5}, {0, 5},
             {7, 5}, {0, 5}, {0, 7}, {0, 0}, {3, 2}, {8, 6}};
         for (int i = 0; i < texts.length; i++) {

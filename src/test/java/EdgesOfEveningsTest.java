@@ -3,15 +3,6 @@ public final class EdgesOfEveningsTest {
     private static final String TERMS = "Terms 2";
     private static final int NONE = LaidQuarrel.NONE, BAD = LaidQuarrel.BAD, FULL = LaidQuarrel.FULL;
 
-    private static LaidQuarrel says(int mood, int... words) {
-        LaidQuarrel x = new LaidQuarrel();
-        for (int word : words) {
-            x.bottle(0, 0, word);
-        }
-        x.guest(mood);
-        return x;
-    }
-
     /** Rows of what, BOTTLE and guest come to the EVENING. */
     private static LaidQuarrel evening(LaidQuarrel x, int... rows) {
         for (int i = 0; i + 2 < rows.length; i += 3) {
@@ -36,29 +27,34 @@ public final class EdgesOfEveningsTest {
         for (int bottle : others) {
             for (int guest : others) {
                 Edge.due(new LaidQuarrel(), 1, "evening", 0, bottle, guest);
-                done(evening(calm(says(9, 5), 4), 0, bottle, guest, 0, guest, bottle), 1, 4);
+                done(evening(calm(Tables.saying(9, 5), 4), 0, bottle, guest, 0, guest, bottle), 1, 4);
             }
         }
-        LaidQuarrel old = says(0, 50, 50);
+        LaidQuarrel old = Tables.saying(0, 50, 50);
         old.set(0, 0, 198);
         Check.read(old, "sharpen 9 b<9");
         done(evening(old, 0, 0, 0), 0, 41 + 50);
         done(evening(old, 0, 0, 0), 0, 41 + 50);
-        done(evening(calm(says(5), 5), 0, 0, 0), 0, 0);
-        done(evening(calm(says(-6), 5), 0, 0, 0), -1, 0);
-        done(evening(calm(says(-4), 5), 0, 0, 0), 0, 0);
+        done(evening(calm(Tables.saying(5), 5), 0, 0, 0), 0, 0);
+        done(evening(calm(Tables.saying(-6), 5), 0, 0, 0), -1, 0);
+        done(evening(calm(Tables.saying(-4), 5), 0, 0, 0), 0, 0);
         Edge.of(TERMS, "1 one is POURED to one of GUESTS");
-        done(evening(says(90, 9, 7), 1, 0, 0), 99, 7);
-        done(evening(says(90, 10, 7), 1, 0, 0), 99, 7);
-        done(evening(says(90, 8, 7), 1, 0, 0), 98, 7);
-        done(evening(says(-90, -9, 7), 1, 0, 0), -99, 7);
-        done(evening(says(-90, -10, 7), 1, 0, 0), -99, 7);
-        done(evening(says(90, 30, -20), 1, 0, 0, 1, 1, 0), 79, 0);
-        done(evening(says(90, 30, -20), 1, 1, 0, 1, 0, 0), 99, 0);
-        LaidQuarrel two = says(1, 10, 20);
+        done(evening(Tables.saying(90, 9, 7), 1, 0, 0), 99, 7);
+        done(evening(Tables.saying(90, 10, 7), 1, 0, 0), 99, 7);
+        done(evening(Tables.saying(90, 8, 7), 1, 0, 0), 98, 7);
+        done(evening(Tables.saying(-90, -9, 7), 1, 0, 0), -99, 7);
+        done(evening(Tables.saying(-90, -10, 7), 1, 0, 0), -99, 7);
+        done(evening(Tables.saying(90, 30, -20), 1, 0, 0, 1, 1, 0), 79, 0);
+        done(evening(Tables.saying(90, 30, -20), 1, 1, 0, 1, 0, 0), 99, 0);
+        LaidQuarrel two = Tables.saying(1, 10, 20);
         two.guest(2);
         done(evening(two, 1, 1, 1), 23, 10);
-        done(evening(calm(says(0, 50, -20), 1), 1, 0, 0, 0, 0, 0, 0, 0, 0), 48, -19);
+        LaidQuarrel heldOne = Tables.saying(90, 20);
+        heldOne.guest(0);
+        done(evening(heldOne, 1, 0, 1), 110, 0);
+        heldOne.evening(-1, 0, 0);
+        done(evening(heldOne, 1, 0, 0), 99, 0);
+        done(evening(calm(Tables.saying(0, 50, -20), 1), 1, 0, 0, 0, 0, 0, 0, 0, 0), 48, -19);
         Edge.of(TERMS, "2 one's QUARTER is 1 more (behind 3 comes 0; the guest not looked at)");
         int[] byQuarter = {20 + 1, -20 + 2, 20 + 3, -20 + 4};
         for (int q = 0; q < 4; q++) {
@@ -76,11 +72,11 @@ public final class EdgesOfEveningsTest {
         }
         Edge.of(TERMS, "3 one gets WORD 0 (likewise)");
         for (int guest : others) {
-            done(evening(says(0, 50, 7), 3, 0, guest), 0, 7);
+            done(evening(Tables.saying(0, 50, 7), 3, 0, guest), 0, 7);
         }
-        done(evening(says(0, -50, 7), 3, 1, 0), 0, -50);
-        done(evening(says(3, 50, 7), 3, 0, 0, 1, 0, 0), 3, 7);
-        done(evening(says(3, 50, 7), 1, 0, 0, 3, 0, 0), 53, 7);
+        done(evening(Tables.saying(0, -50, 7), 3, 1, 0), 0, -50);
+        done(evening(Tables.saying(3, 50, 7), 3, 0, 0, 1, 0, 0), 3, 7);
+        done(evening(Tables.saying(3, 50, 7), 1, 0, 0, 3, 0, 0), 53, 7);
         LaidQuarrel feud = new LaidQuarrel();
         feud.bottle(4, 9, 90);
         feud.set(0, 0, 40);
@@ -90,7 +86,7 @@ public final class EdgesOfEveningsTest {
 
     private static void eightAtMost() {
         Edge.of(TERMS, "8 at most; 1 passed over for what is EMPTY then.");
-        LaidQuarrel x = calm(says(99, 1), 1);
+        LaidQuarrel x = calm(Tables.saying(99, 1), 1);
         for (int n = 1; n <= 8; n++) {
             Edge.due(x, n, "evening", 0, 0, 0);
             Edge.due(x, n, "count", 3);
@@ -100,21 +96,21 @@ public final class EdgesOfEveningsTest {
         Edge.due(x, FULL, "evening", 1, 0, 0);
         Edge.due(x, 8, "count", 3);
         Edge.due(x, 91, "done", 0);
-        done(evening(says(0, 30, 4), 1, 0, 0, 1, 0, 0), 30, 4);
-        done(evening(says(0, 30, 4), 1, 0, 0, 2, 0, 0, 1, 0, 0, 1, 1, 0), 34, 0);
-        LaidQuarrel empty = says(0, 30, 4);
+        done(evening(Tables.saying(0, 30, 4), 1, 0, 0, 1, 0, 0), 30, 4);
+        done(evening(Tables.saying(0, 30, 4), 1, 0, 0, 2, 0, 0, 1, 0, 0, 1, 1, 0), 34, 0);
+        LaidQuarrel empty = Tables.saying(0, 30, 4);
         empty.pour(0, 0);
         done(evening(empty, 1, 0, 0), 30, 4);
         Edge.due(empty, 2, "evening", 1, 0, 0);
-        LaidQuarrel later = evening(says(0, 30, 4), 1, 0, 0);
+        LaidQuarrel later = evening(Tables.saying(0, 30, 4), 1, 0, 0);
         done(later, 30, 4);
         later.pour(0, 0);
         done(later, 30, 4);
     }
 
     private static void promise29() {
-        Edge.of("Promise 29", "A row comes to the EVENING: how many there are (what -1: none then, 0, whatever the others "
-            + "are).");
+        Edge.of("Promise 29", "A row comes to the EVENING: how many there are (what -1: none then, 0, whatever the "
+            + "others are).");
         LaidQuarrel x = Tables.laid();
         Edge.due(x, 3, "evening", 0, 0, 0);
         Edge.due(x, 4, "evening", 1, 2, 1);
@@ -159,8 +155,8 @@ public final class EdgesOfEveningsTest {
     private static void doneByRows() {
         Edge.of(TERMS, "DONE: MOOD of all, together; what all that are not EMPTY SAY, together.");
         done(new LaidQuarrel(), 0, 0);
-        done(says(7), 7, 0);
-        LaidQuarrel x = says(99, 99, 99, 99, 99, 99, 99);
+        done(Tables.saying(7), 7, 0);
+        LaidQuarrel x = Tables.saying(99, 99, 99, 99, 99, 99, 99);
         x.guest(99);
         x.guest(99);
         x.guest(99);
@@ -172,7 +168,7 @@ public final class EdgesOfEveningsTest {
         done(x, 396, 297);
         done(evening(Tables.bare(), 0, 0, 0), 0, 0);
         Edge.of("Promise 30", "DONE: what 0 MOOD of all, 1 what all SAY.");
-        done(evening(says(-9, 5, 6), 1, 1, 0), -3, 5);
+        done(evening(Tables.saying(-9, 5, 6), 1, 1, 0), -3, 5);
         Edge.of("Promise 30", "-10001: NONE.");
         for (int what : new int[] {Edge.LEAST, -1, 2, Edge.MOST}) {
             Edge.refused(Tables::laid, -10001, "done", what);
@@ -182,7 +178,7 @@ public final class EdgesOfEveningsTest {
 
     private static void bookByHand() {
         Edge.of(TERMS, "BOOK told by hand: BOTTLES and what they SAY (-999 .. 999); 8 at most.");
-        LaidQuarrel x = says(0, 5);
+        LaidQuarrel x = Tables.saying(0, 5);
         int[] says = {-999, 999, -998, 998, 0, 5, -1, 1};
         for (int r = 0; r < says.length; r++) {
             Edge.due(x, r, "count", 4);
@@ -193,7 +189,7 @@ public final class EdgesOfEveningsTest {
         Edge.due(x, FULL, "book", 0, 0);
         Edge.due(x, 8, "count", 4);
         Edge.of(TERMS, "LOOKED at: the first by which it is otherwise now (-5: none).");
-        LaidQuarrel y = says(0, 5, 6);
+        LaidQuarrel y = Tables.saying(0, 5, 6);
         Edge.due(y, -5, "looked");
         for (int r = 0; r < 7; r++) {
             y.book(r % 2, 5 + r % 2);
@@ -215,7 +211,8 @@ public final class EdgesOfEveningsTest {
     }
 
     private static void promises31And32() {
-        Edge.of("Promise 31", "A row comes to BOOK: how many there are (bottle -1: none then, 0, whatever the other is).");
+        Edge.of("Promise 31", "A row comes to BOOK: how many there are (bottle -1: none then, 0, whatever the other "
+            + "is).");
         LaidQuarrel x = Tables.laid();
         Edge.due(x, 3, "book", 0, 7);
         Edge.due(x, 4, "book", 1, -7);

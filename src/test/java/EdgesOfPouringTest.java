@@ -3,65 +3,46 @@ public final class EdgesOfPouringTest {
     private static final String TERMS = "Terms 2";
     private static final int NONE = LaidQuarrel.NONE, BAD = LaidQuarrel.BAD;
 
-    /** One of GUESTS with this MOOD, and BOTTLES that SAY these. */
-    private static LaidQuarrel says(int mood, int... words) {
-        LaidQuarrel x = new LaidQuarrel();
-        for (int word : words) {
-            x.bottle(0, 0, word);
-        }
-        x.guest(mood);
-        return x;
-    }
-
-    /** These BOTTLES are EMPTY then, by another one of GUESTS. */
-    private static LaidQuarrel emptied(LaidQuarrel x, int... bottles) {
-        x.guest(0);
-        for (int b : bottles) {
-            x.pour(b, 1);
-        }
-        return x;
-    }
-
     private static void choose() {
         Edge.of(TERMS, "CHOOSE of one of GUESTS and m (-99 .. 99)");
-        Edge.due(says(90, 9), 1, "choose", 0, 99);
-        Edge.due(says(-90, -9), 1, "choose", 0, -99);
-        Edge.due(says(99, 9), 0, "choose", 0, 99);
-        Edge.due(says(-99, 9), 0, "choose", 0, -99);
-        Edge.due(says(90, 10), BAD, "choose", 0, 100);
-        Edge.due(says(-90, -10), BAD, "choose", 0, -100);
+        Edge.due(Tables.saying(90, 9), 1, "choose", 0, 99);
+        Edge.due(Tables.saying(-90, -9), 1, "choose", 0, -99);
+        Edge.due(Tables.saying(99, 9), 0, "choose", 0, 99);
+        Edge.due(Tables.saying(-99, 9), 0, "choose", 0, -99);
+        Edge.due(Tables.saying(90, 10), BAD, "choose", 0, 100);
+        Edge.due(Tables.saying(-90, -10), BAD, "choose", 0, -100);
         Edge.of(TERMS, "of all sets of BOTTLES that are not EMPTY by which MOOD and what they SAY, all together "
             + "(nothing held), is m");
-        Edge.due(says(0), 0, "choose", 0, 0);
-        Edge.due(says(0), -5, "choose", 0, 1);
-        Edge.due(says(0, 5), 0, "choose", 0, 0);
-        Edge.due(says(7, 5), 1, "choose", 0, 12);
-        Edge.due(says(90, 60, -51), 3, "choose", 0, 99);
-        Edge.due(says(90, 60, -51), -5, "choose", 0, 48);
-        Edge.due(says(98, 99, -98), 3, "choose", 0, 99);
-        Edge.due(says(90, 60), -5, "choose", 0, 99);
-        Edge.due(says(-90, -60, 51), 3, "choose", 0, -99);
-        Edge.due(says(-90, -60), -5, "choose", 0, -99);
-        Edge.due(says(0, 1, 2, 4, 8, 16, 32), 63, "choose", 0, 63);
-        Edge.due(emptied(says(0, 5, 5, 6), 0), 2, "choose", 0, 5);
-        Edge.due(emptied(says(0, 5, 5, 6), 0, 1), -5, "choose", 0, 5);
-        Edge.due(emptied(says(0, 5), 0), 0, "choose", 0, 0);
+        Edge.due(Tables.saying(0), 0, "choose", 0, 0);
+        Edge.due(Tables.saying(0), -5, "choose", 0, 1);
+        Edge.due(Tables.saying(0, 5), 0, "choose", 0, 0);
+        Edge.due(Tables.saying(7, 5), 1, "choose", 0, 12);
+        Edge.due(Tables.saying(90, 60, -51), 3, "choose", 0, 99);
+        Edge.due(Tables.saying(90, 60, -51), -5, "choose", 0, 48);
+        Edge.due(Tables.saying(98, 99, -98), 3, "choose", 0, 99);
+        Edge.due(Tables.saying(90, 60), -5, "choose", 0, 99);
+        Edge.due(Tables.saying(-90, -60, 51), 3, "choose", 0, -99);
+        Edge.due(Tables.saying(-90, -60), -5, "choose", 0, -99);
+        Edge.due(Tables.saying(0, 1, 2, 4, 8, 16, 32), 63, "choose", 0, 63);
+        Edge.due(Tables.emptied(Tables.saying(0, 5, 5, 6), 0), 2, "choose", 0, 5);
+        Edge.due(Tables.emptied(Tables.saying(0, 5, 5, 6), 0, 1), -5, "choose", 0, 5);
+        Edge.due(Tables.emptied(Tables.saying(0, 5), 0), 0, "choose", 0, 0);
         Edge.of(TERMS, "that with the fewest (of several the least as bits): which, as bits (-5: none).");
-        Edge.due(says(0, 1, 2, 3), 4, "choose", 0, 3);
-        Edge.due(says(0, 1, 1, 1, 3, 2, 1), 8, "choose", 0, 3);
-        Edge.due(says(0, 1, 1, 1, 4, 2, 1), 17, "choose", 0, 3);
-        Edge.due(says(0, 0, 0), 0, "choose", 0, 0);
-        Edge.due(says(0, 3, 3, 3), 1, "choose", 0, 3);
-        Edge.due(says(0, 9, 3, 3), 2, "choose", 0, 3);
-        Edge.due(says(0, 1, 4, 4, 1), 3, "choose", 0, 5);
-        Edge.due(says(0, 1, 2, 3, 9, 9, 4), 6, "choose", 0, 5);
-        Edge.due(says(0, 2, 4), -5, "choose", 0, 1);
+        Edge.due(Tables.saying(0, 1, 2, 3), 4, "choose", 0, 3);
+        Edge.due(Tables.saying(0, 1, 1, 1, 3, 2, 1), 8, "choose", 0, 3);
+        Edge.due(Tables.saying(0, 1, 1, 1, 4, 2, 1), 17, "choose", 0, 3);
+        Edge.due(Tables.saying(0, 0, 0), 0, "choose", 0, 0);
+        Edge.due(Tables.saying(0, 3, 3, 3), 1, "choose", 0, 3);
+        Edge.due(Tables.saying(0, 9, 3, 3), 2, "choose", 0, 3);
+        Edge.due(Tables.saying(0, 1, 4, 4, 1), 3, "choose", 0, 5);
+        Edge.due(Tables.saying(0, 1, 2, 3, 9, 9, 4), 6, "choose", 0, 5);
+        Edge.due(Tables.saying(0, 2, 4), -5, "choose", 0, 1);
     }
 
     private static void promise18() {
         Edge.of("Promise 18", "CHOOSE (bits); -5.");
-        Edge.due(says(0, 9, 9, 9, 9, 9, 7), 32, "choose", 0, 7);
-        Edge.due(says(0, 9), -5, "choose", 0, 7);
+        Edge.due(Tables.saying(0, 9, 9, 9, 9, 9, 7), 32, "choose", 0, 7);
+        Edge.due(Tables.saying(0, 9), -5, "choose", 0, 7);
         Edge.of("Promise 18", "NONE; BAD: m.");
         for (int guest : new int[] {Edge.LEAST, -1, 2, Edge.MOST}) {
             Edge.refused(Tables::laid, NONE, "choose", guest, 0);
@@ -82,44 +63,48 @@ public final class EdgesOfPouringTest {
     }
 
     private static void lines() {
-        Edge.of(TERMS, "LINE of one of GUESTS: of all orders of all BOTTLES that are not EMPTY, POURED to it one behind "
-            + "the other, that by which its MOOD is greatest at the end (of several the first as a row): MOOD; "
-            + "the k-th.");
-        line(says(90), 90);
-        line(says(-99), -99);
-        line(says(90, 5), 95, 0);
-        line(says(90, -5), 85, 0);
-        line(says(90, 30), 99, 0);
-        line(says(90, 30, -20), 99, 1, 0);
-        line(says(50, 49, -20), 79, 0, 1);
-        line(says(50, 50, -20), 80, 1, 0);
-        line(says(-90, -30, 20), -79, 0, 1);
-        line(says(-90, 20, -30), -79, 1, 0);
-        line(says(-50, 20, -49), -79, 0, 1);
-        line(says(-50, 20, -50), -79, 1, 0);
-        line(says(0, 1, 2, 3), 6, 0, 1, 2);
-        line(says(0, 3, 2, 1), 6, 0, 1, 2);
-        line(says(0, 60, 70, -20), 99, 0, 2, 1);
-        line(says(99, 1, 1, -1), 99, 0, 2, 1);
-        line(says(0, 1, 2, 3, 4, 5, 6), 21, 0, 1, 2, 3, 4, 5);
-        line(says(0, 99, 98, -97, 96, -95, 94), 99, 0, 2, 1, 4, 3, 5);
-        line(says(99, 99, 99, 99, 99, 99, -99), 99, 0, 1, 2, 3, 5, 4);
-        line(emptied(says(90, 60, -20, 70), 0), 99, 1, 2);
-        line(emptied(says(90, 60, -20, 70), 0, 2), 70, 1);
-        line(emptied(says(90, 60, -20, 70), 0, 1, 2), 90);
+        Edge.of(TERMS, "LINE of one of GUESTS: of all orders of all BOTTLES that are not EMPTY, POURED to it one "
+            + "behind the other, that by which its MOOD is greatest at the end (of several the first as a row): "
+            + "MOOD; the k-th.");
+        line(Tables.saying(90), 90);
+        line(Tables.saying(-99), -99);
+        line(Tables.saying(90, 5), 95, 0);
+        line(Tables.saying(90, -5), 85, 0);
+        line(Tables.saying(90, 30), 99, 0);
+        line(Tables.saying(90, 30, -20), 99, 1, 0);
+        line(Tables.saying(50, 49, -20), 79, 0, 1);
+        line(Tables.saying(50, 50, -20), 80, 1, 0);
+        line(Tables.saying(-90, -30, 20), -79, 0, 1);
+        line(Tables.saying(-90, 20, -30), -79, 1, 0);
+        line(Tables.saying(-50, 20, -49), -79, 0, 1);
+        line(Tables.saying(-50, 20, -50), -79, 1, 0);
+        line(Tables.saying(-99, -1), -99, 0);
+        line(Tables.saying(-99, -1, -2, -3), -99, 0, 1, 2);
+        line(Tables.saying(-99, 0, -1, -2, -3), -99, 0, 1, 2, 3);
+        line(Tables.emptied(Tables.saying(-99, 5, -1, -2, -3), 0), -99, 1, 2, 3);
+        line(Tables.saying(0, 1, 2, 3), 6, 0, 1, 2);
+        line(Tables.saying(0, 3, 2, 1), 6, 0, 1, 2);
+        line(Tables.saying(0, 60, 70, -20), 99, 0, 2, 1);
+        line(Tables.saying(99, 1, 1, -1), 99, 0, 2, 1);
+        line(Tables.saying(0, 1, 2, 3, 4, 5, 6), 21, 0, 1, 2, 3, 4, 5);
+        line(Tables.saying(0, 99, 98, -97, 96, -95, 94), 99, 0, 2, 1, 4, 3, 5);
+        line(Tables.saying(99, 99, 99, 99, 99, 99, -99), 99, 0, 1, 2, 3, 5, 4);
+        line(Tables.emptied(Tables.saying(90, 60, -20, 70), 0), 99, 1, 2);
+        line(Tables.emptied(Tables.saying(90, 60, -20, 70), 0, 2), 70, 1);
+        line(Tables.emptied(Tables.saying(90, 60, -20, 70), 0, 1, 2), 90);
     }
 
     private static void promise19() {
         Edge.of("Promise 19", "LINE: k -1 MOOD, else the k-th (-5: there are fewer).");
-        LaidQuarrel x = says(0, 5, 4, 3, 2, 1, 0);
+        LaidQuarrel x = Tables.saying(0, 5, 4, 3, 2, 1, 0);
         Edge.due(x, 15, "line", 0, -1);
         Edge.due(x, 0, "line", 0, 0);
         Edge.due(x, 5, "line", 0, 5);
-        Edge.due(says(0, 1, 2, 3, 4, 5), 4, "line", 0, 4);
-        Edge.due(says(0, 1, 2, 3, 4, 5), -5, "line", 0, 5);
-        Edge.due(says(0), -5, "line", 0, 0);
-        Edge.due(says(0, 1), 0, "line", 0, 0);
-        Edge.due(says(0, 1), -5, "line", 0, 1);
+        Edge.due(Tables.saying(0, 1, 2, 3, 4, 5), 4, "line", 0, 4);
+        Edge.due(Tables.saying(0, 1, 2, 3, 4, 5), -5, "line", 0, 5);
+        Edge.due(Tables.saying(0), -5, "line", 0, 0);
+        Edge.due(Tables.saying(0, 1), 0, "line", 0, 0);
+        Edge.due(Tables.saying(0, 1), -5, "line", 0, 1);
         Edge.of("Promise 19", "-10001: NONE: guest, k (-1 .. 5).");
         for (int guest : new int[] {Edge.LEAST, -1, 2, Edge.MOST}) {
             Edge.refused(Tables::laid, -10001, "line", guest, 0);
@@ -136,25 +121,25 @@ public final class EdgesOfPouringTest {
     private static void pair() {
         Edge.of(TERMS, "PAIR: the two that are not EMPTY by which what both SAY, together, is nearest to 0 (10 times "
             + "the lesser and the greater number; of several the first; -5: there are not two).");
-        Edge.due(says(0), -5, "pair");
-        Edge.due(says(0, 5), -5, "pair");
-        Edge.due(says(0, 99, 99), 1, "pair");
-        Edge.due(says(0, -99, -99), 1, "pair");
-        Edge.due(says(0, 99, 99, 99, 99, 0, 0), 45, "pair");
-        Edge.due(says(0, 50, 10, -14, 30), 12, "pair");
-        Edge.due(says(0, 50, 14, -10, 30), 12, "pair");
-        Edge.due(says(0, 7, 90, -5, 3), 2, "pair");
-        Edge.due(says(0, -7, 90, 5, -3), 2, "pair");
-        Edge.due(says(0, 1, 1, 1, 1, 1, 1), 1, "pair");
-        Edge.due(says(0, 3, 10, -10, 50, 60, -3), 5, "pair");
-        Edge.due(says(0, 9, 5, 5, 5), 12, "pair");
-        Edge.due(emptied(says(0, 1, -1, 50, 60), 0), 12, "pair");
-        Edge.due(emptied(says(0, 1, -1, 50, 60), 1), 2, "pair");
-        Edge.due(emptied(says(0, 1, -1, 50, 60), 0, 1), 23, "pair");
-        Edge.due(emptied(says(0, 1, -1, 50, 60), 0, 1, 3), -5, "pair");
-        Edge.due(emptied(says(0, 1, -1, 50, 60), 0, 1, 2, 3), -5, "pair");
+        Edge.due(Tables.saying(0), -5, "pair");
+        Edge.due(Tables.saying(0, 5), -5, "pair");
+        Edge.due(Tables.saying(0, 99, 99), 1, "pair");
+        Edge.due(Tables.saying(0, -99, -99), 1, "pair");
+        Edge.due(Tables.saying(0, 99, 99, 99, 99, 0, 0), 45, "pair");
+        Edge.due(Tables.saying(0, 50, 10, -14, 30), 12, "pair");
+        Edge.due(Tables.saying(0, 50, 14, -10, 30), 12, "pair");
+        Edge.due(Tables.saying(0, 7, 90, -5, 3), 2, "pair");
+        Edge.due(Tables.saying(0, -7, 90, 5, -3), 2, "pair");
+        Edge.due(Tables.saying(0, 1, 1, 1, 1, 1, 1), 1, "pair");
+        Edge.due(Tables.saying(0, 3, 10, -10, 50, 60, -3), 5, "pair");
+        Edge.due(Tables.saying(0, 9, 5, 5, 5), 12, "pair");
+        Edge.due(Tables.emptied(Tables.saying(0, 1, -1, 50, 60), 0), 12, "pair");
+        Edge.due(Tables.emptied(Tables.saying(0, 1, -1, 50, 60), 1), 2, "pair");
+        Edge.due(Tables.emptied(Tables.saying(0, 1, -1, 50, 60), 0, 1), 23, "pair");
+        Edge.due(Tables.emptied(Tables.saying(0, 1, -1, 50, 60), 0, 1, 3), -5, "pair");
+        Edge.due(Tables.emptied(Tables.saying(0, 1, -1, 50, 60), 0, 1, 2, 3), -5, "pair");
         Edge.of("Promise 20", "PAIR; -5.");
-        Edge.due(says(0, 7, 8, -7), 2, "pair");
+        Edge.due(Tables.saying(0, 7, 8, -7), 2, "pair");
         Edge.due(Tables.laid(), 2, "pair");
         Edge.due(Tables.bare(), -5, "pair");
     }
@@ -168,18 +153,18 @@ public final class EdgesOfPouringTest {
     }
 
     private static LaidQuarrel peace(int n, int... words) {
-        LaidQuarrel x = says(0, words);
+        LaidQuarrel x = Tables.saying(0, words);
         Check.read(x, "peace " + n);
         return x;
     }
 
     private static void matches() {
-        Edge.of(TERMS, "MATCH: the most pairs of BOTTLES that are not EMPTY, each in one at most, by which what both SAY, "
-            + "together, is no farther from 0 than PEACE");
-        match(says(0, 10, -4), 0, -5, -5);
-        match(says(0, 10, -5), 1, 1, 0);
-        match(says(0, 10, -15), 1, 1, 0);
-        match(says(0, 10, -16), 0, -5, -5);
+        Edge.of(TERMS, "MATCH: the most pairs of BOTTLES that are not EMPTY, each in one at most, by which what "
+            + "both SAY, together, is no farther from 0 than PEACE");
+        match(Tables.saying(0, 10, -4), 0, -5, -5);
+        match(Tables.saying(0, 10, -5), 1, 1, 0);
+        match(Tables.saying(0, 10, -15), 1, 1, 0);
+        match(Tables.saying(0, 10, -16), 0, -5, -5);
         match(peace(0, 10, -10), 1, 1, 0);
         match(peace(0, 10, -9), 0, -5, -5);
         match(peace(0, 10, -11), 0, -5, -5);
@@ -187,34 +172,36 @@ public final class EdgesOfPouringTest {
         match(peace(99, 50, 50), 0, -5, -5);
         match(peace(99, -50, -49), 1, 1, 0);
         match(peace(99, -50, -50), 0, -5, -5);
-        match(says(0), 0);
-        match(says(0, 0), 0, -5);
-        match(says(0, 0, 0), 1, 1, 0);
-        match(says(0, 0, 0, 0), 1, 1, 0, -5);
-        match(says(0, 0, 0, 0, 0), 2, 1, 0, 3, 2);
-        match(says(0, 0, 0, 0, 0, 0), 2, 1, 0, 3, 2, -5);
-        match(says(0, 0, 0, 0, 0, 0, 0), 3, 1, 0, 3, 2, 5, 4);
-        match(says(0, 10, -10, -10), 1, 1, 0, -5);
-        match(says(0, -10, -10, 10), 1, 2, -5, 0);
-        match(emptied(says(0, 1, 1, 1, 1), 1), 1, 2, -5, 0, -5);
-        match(emptied(says(0, 1, 1, 1, 1), 0, 1), 1, -5, -5, 3, 2);
-        match(emptied(says(0, 1, 1, 1, 1), 0, 1, 3), 0, -5, -5, -5, -5);
+        match(Tables.saying(0), 0);
+        match(Tables.saying(0, 0), 0, -5);
+        match(Tables.saying(0, 0, 0), 1, 1, 0);
+        match(Tables.saying(0, 0, 0, 0), 1, 1, 0, -5);
+        match(Tables.saying(0, 0, 0, 0, 0), 2, 1, 0, 3, 2);
+        match(Tables.saying(0, 0, 0, 0, 0, 0), 2, 1, 0, 3, 2, -5);
+        match(Tables.saying(0, 0, 0, 0, 0, 0, 0), 3, 1, 0, 3, 2, 5, 4);
+        match(Tables.saying(0, 10, -10, -10), 1, 1, 0, -5);
+        match(Tables.saying(0, -10, -10, 10), 1, 2, -5, 0);
+        match(Tables.emptied(Tables.saying(0, 1, 1, 1, 1), 1), 1, 2, -5, 0, -5);
+        match(Tables.emptied(Tables.saying(0, 1, 1, 1, 1), 0, 1), 1, -5, -5, 3, 2);
+        match(Tables.emptied(Tables.saying(0, 1, 1, 1, 1), 0, 1, 3), 0, -5, -5, -5, -5);
         Edge.of(TERMS, "of all ways with so many the first as a row of partners by numbers (lesser ones ahead, nobody "
             + "last): how many; partner of one (-5: none).");
-        match(says(0, 10, -10, -14, 6), 2, 2, 3, 0, 1);
-        match(says(0, 4, 2, -2), 1, 2, -5, 0);
-        match(says(0, 3, 0, 0), 1, 1, 0, -5);
-        match(says(0, 90, 1, 1, 1), 1, -5, 2, 1, -5);
-        match(says(0, 40, 20, -40, 30, -30, -20), 3, 2, 5, 0, 4, 3, 1);
-        match(says(0, 10, -10, -10, 10), 2, 1, 0, 3, 2);
-        match(says(0, 10, 10, -10, -10), 2, 2, 3, 0, 1);
-        match(says(0, 10, 10, 10, -10, -10), 2, 3, 4, -5, 0, 1);
-        match(says(0, 4, 0, 0, 90, 0, 0), 2, 1, 0, 4, -5, 2, -5);
+        match(Tables.saying(0, 10, -10, -14, 6), 2, 2, 3, 0, 1);
+        match(Tables.saying(0, 4, 2, -2), 1, 2, -5, 0);
+        match(Tables.saying(0, 3, 0, 0), 1, 1, 0, -5);
+        match(Tables.saying(0, 90, 1, 1, 1), 1, -5, 2, 1, -5);
+        match(Tables.saying(0, 40, 20, -40, 30, -30, -20), 3, 2, 5, 0, 4, 3, 1);
+        match(Tables.saying(0, 10, -10, -10, 10), 2, 1, 0, 3, 2);
+        match(Tables.saying(0, 10, -6, 14, -12, -18), 2, 1, 0, 3, 2, -5);
+        match(Tables.saying(0, 99, 10, -6, 14, -12, -18), 2, -5, 2, 1, 4, 3, -5);
+        match(Tables.saying(0, 10, 10, -10, -10), 2, 2, 3, 0, 1);
+        match(Tables.saying(0, 10, 10, 10, -10, -10), 2, 3, 4, -5, 0, 1);
+        match(Tables.saying(0, 4, 0, 0, 90, 0, 0), 2, 1, 0, 4, -5, 2, -5);
     }
 
     private static void promise21() {
         Edge.of("Promise 21", "MATCH: what 0 how many, 10 and b partner of BOTTLE b (-5).");
-        match(says(0, 50, 40, 30, 0, 20, -20), 1, -5, -5, -5, -5, 5, 4);
+        match(Tables.saying(0, 50, 40, 30, 0, 20, -20), 1, -5, -5, -5, -5, 5, 4);
         Edge.of("Promise 21", "NONE.");
         for (int what : new int[] {Edge.LEAST, Edge.LEAST + 10, -1, 1, 9, 13, 15, 16, 20, Edge.MOST}) {
             Edge.refused(Tables::laid, NONE, "match", what);
@@ -291,7 +278,39 @@ public final class EdgesOfPouringTest {
         Edge.refused(Tables::bare, -10001, "words", 0, 0, 0);
     }
 
+    /** The same object is asked, is otherwise then, and is asked again. */
+    private static void againAsAllIsThen() {
+        Edge.of(TERMS, "All that follows is asked, goes on from how all is (YEAR beyond 9999, too), and changes "
+            + "nothing.");
+        LaidQuarrel x = Tables.saying(0, 40, -40, 30);
+        line(x, 30, 0, 1, 2);
+        match(x, 1, 1, 0, -5);
+        Edge.due(x, 1, "choose", 0, 40);
+        Edge.due(x, 1, "pair");
+        x.set(0, 0, 20);
+        x.set(1, 0, 20);
+        line(x, 30, 0, 1, 2);
+        Edge.due(x, 1, "choose", 0, 30);
+        x.set(1, 0, 0);
+        Edge.due(x, -5, "choose", 0, 40);
+        Edge.due(x, 1, "pair");
+        match(x, 0, -5, -5, -5);
+        line(x, 20, 0, 1, 2);
+        x.bottle(0, 0, 10);
+        Edge.due(x, 9, "choose", 0, 40);
+        match(x, 0, -5, -5, -5, -5);
+        x.bottle(0, 0, -10);
+        x.bottle(0, 0, 99);
+        match(x, 1, -5, -5, -5, 4, 3, -5);
+        line(x, 99, 0, 1, 2, 3, 4, 5);
+        x.pour(3, 0);
+        x.set(2, 0, 60);
+        match(x, 0, -5, -5, -5, -5, -5, -5);
+        Edge.due(x, 16, "choose", 0, 0);
+    }
+
     public static void main(String[] args) {
+        againAsAllIsThen();
         choose();
         promise18();
         lines();

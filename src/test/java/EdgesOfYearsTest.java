@@ -3,13 +3,6 @@ public final class EdgesOfYearsTest {
     private static final String TERMS = "Terms 2";
     private static final int NONE = LaidQuarrel.NONE;
 
-    private static LaidQuarrel one(int kind, int v, int word, int years) {
-        LaidQuarrel x = new LaidQuarrel();
-        x.bottle(kind, v, word);
-        x.set(0, 0, years);
-        return x;
-    }
-
     private static LaidQuarrel lateAndTold() {
         LaidQuarrel x = Tables.late();
         x.see(0, -20, 20);
@@ -20,7 +13,8 @@ public final class EdgesOfYearsTest {
     }
 
     private static void beyondTheLastYear() {
-        Edge.of(TERMS, "All that follows is asked, goes on from how all is (YEAR beyond 9999, too), and changes nothing.");
+        Edge.of(TERMS, "All that follows is asked, goes on from how all is (YEAR beyond 9999, too), and changes "
+            + "nothing.");
         LaidQuarrel x = lateAndTold();
         Edge.due(x, LaidQuarrel.STATE, "pass", 1);
         Edge.due(x, -1, "on", 59, 10);
@@ -73,12 +67,12 @@ public final class EdgesOfYearsTest {
             }
         }
         for (int years : new int[] {139, 140, 198, 199}) {
-            LaidQuarrel y = one(0, 0, 50, years);
+            LaidQuarrel y = Tables.one(0, 0, 50, years);
             Check.read(y, "sharpen 9 b=0");
             Edge.due(y, 41, "on", 60, 10);
             Edge.due(y, 41, "on", 60, 0);
         }
-        LaidQuarrel z = one(0, 0, 50, 199);
+        LaidQuarrel z = Tables.one(0, 0, 50, 199);
         Check.read(z, "sharpen 9 b=0;soften 30 y>19");
         Edge.due(z, 41, "on", 1, 10);
         Edge.due(z, 41, "on", 60, 0);
@@ -136,21 +130,21 @@ public final class EdgesOfYearsTest {
 
     private static void whenMost() {
         Edge.of(TERMS, "WHEN of one: behind how many of 0 .. 60 YEARS it SAYS most (of several the first); how much.");
-        when(one(0, 0, 0, 0), 0, 0);
-        when(one(0, 0, 50, 0), 0, 50);
-        when(one(0, 0, 1, 0), 0, 1);
-        when(one(0, 0, -1, 0), 2, 0);
-        when(one(0, 0, -1, 1), 1, 0);
-        when(one(0, 0, -29, 0), 58, 0);
-        when(one(0, 0, -30, 0), 60, 0);
-        when(one(0, 0, -31, 0), 60, -1);
-        when(one(0, 0, -99, 0), 60, -69);
-        when(one(0, 0, -99, 1), 59, -69);
-        when(one(0, 0, -99, 139), 59, 0);
-        when(one(0, 0, -99, 199), 0, 0);
-        when(one(4, 9, -60, 0), 40, -50);
-        when(one(4, 9, -60, 41), 59, -44);
-        LaidQuarrel late = one(0, 0, 80, 0);
+        when(Tables.one(0, 0, 0, 0), 0, 0);
+        when(Tables.one(0, 0, 50, 0), 0, 50);
+        when(Tables.one(0, 0, 1, 0), 0, 1);
+        when(Tables.one(0, 0, -1, 0), 2, 0);
+        when(Tables.one(0, 0, -1, 1), 1, 0);
+        when(Tables.one(0, 0, -29, 0), 58, 0);
+        when(Tables.one(0, 0, -30, 0), 60, 0);
+        when(Tables.one(0, 0, -31, 0), 60, -1);
+        when(Tables.one(0, 0, -99, 0), 60, -69);
+        when(Tables.one(0, 0, -99, 1), 59, -69);
+        when(Tables.one(0, 0, -99, 139), 59, 0);
+        when(Tables.one(0, 0, -99, 199), 0, 0);
+        when(Tables.one(4, 9, -60, 0), 40, -50);
+        when(Tables.one(4, 9, -60, 41), 59, -44);
+        LaidQuarrel late = Tables.one(0, 0, 80, 0);
         Check.read(late, "sharpen 10 y=6");
         late.set(0, 0, 0);
         when(late, 0, 80);
@@ -162,8 +156,7 @@ public final class EdgesOfYearsTest {
         when(late, 1, 80);
         late.set(0, 0, 60);
         when(late, 0, 80);
-        LaidQuarrel empty = one(0, 0, -30, 0);
-        empty.guest(0);
+        LaidQuarrel empty = Tables.one(0, 0, -30, 0);
         empty.pour(0, 0);
         when(empty, 0, -30);
     }
@@ -185,26 +178,25 @@ public final class EdgesOfYearsTest {
 
     private static void ripeBehind() {
         Edge.of(TERMS, "RIPE of one: the fewest YEARS (0 .. 60) behind which it SAYS 0 or more (-5: not by then).");
-        Edge.due(one(0, 0, 99, 0), 0, "ripe", 0);
-        Edge.due(one(0, 0, 0, 0), 0, "ripe", 0);
-        Edge.due(one(0, 0, -1, 0), 2, "ripe", 0);
-        Edge.due(one(0, 0, -1, 1), 1, "ripe", 0);
-        Edge.due(one(0, 0, -1, 2), 0, "ripe", 0);
-        Edge.due(one(0, 0, -29, 0), 58, "ripe", 0);
-        Edge.due(one(0, 0, -30, 0), 60, "ripe", 0);
-        Edge.due(one(0, 0, -31, 0), -5, "ripe", 0);
-        Edge.due(one(0, 0, -31, 1), -5, "ripe", 0);
-        Edge.due(one(0, 0, -31, 2), 60, "ripe", 0);
-        Edge.due(one(2, 0, -60, 0), 60, "ripe", 0);
-        Edge.due(one(2, 0, -61, 0), -5, "ripe", 0);
-        Edge.due(one(1, 0, -15, 0), 60, "ripe", 0);
-        Edge.due(one(1, 0, -16, 0), -5, "ripe", 0);
-        Edge.due(one(4, 1, -10, 0), 40, "ripe", 0);
-        Edge.due(one(4, 1, -10, 41), -5, "ripe", 0);
-        Edge.due(one(4, 1, -11, 0), -5, "ripe", 0);
-        Edge.due(one(4, 0, -11, 0), 44, "ripe", 0);
-        LaidQuarrel empty = one(0, 0, -1, 0);
-        empty.guest(0);
+        Edge.due(Tables.one(0, 0, 99, 0), 0, "ripe", 0);
+        Edge.due(Tables.one(0, 0, 0, 0), 0, "ripe", 0);
+        Edge.due(Tables.one(0, 0, -1, 0), 2, "ripe", 0);
+        Edge.due(Tables.one(0, 0, -1, 1), 1, "ripe", 0);
+        Edge.due(Tables.one(0, 0, -1, 2), 0, "ripe", 0);
+        Edge.due(Tables.one(0, 0, -29, 0), 58, "ripe", 0);
+        Edge.due(Tables.one(0, 0, -30, 0), 60, "ripe", 0);
+        Edge.due(Tables.one(0, 0, -31, 0), -5, "ripe", 0);
+        Edge.due(Tables.one(0, 0, -31, 1), -5, "ripe", 0);
+        Edge.due(Tables.one(0, 0, -31, 2), 60, "ripe", 0);
+        Edge.due(Tables.one(2, 0, -60, 0), 60, "ripe", 0);
+        Edge.due(Tables.one(2, 0, -61, 0), -5, "ripe", 0);
+        Edge.due(Tables.one(1, 0, -15, 0), 60, "ripe", 0);
+        Edge.due(Tables.one(1, 0, -16, 0), -5, "ripe", 0);
+        Edge.due(Tables.one(4, 1, -10, 0), 40, "ripe", 0);
+        Edge.due(Tables.one(4, 1, -10, 41), -5, "ripe", 0);
+        Edge.due(Tables.one(4, 1, -11, 0), -5, "ripe", 0);
+        Edge.due(Tables.one(4, 0, -11, 0), 44, "ripe", 0);
+        LaidQuarrel empty = Tables.one(0, 0, -1, 0);
         empty.pour(0, 0);
         Edge.due(empty, -5, "ripe", 0);
     }
@@ -222,7 +214,7 @@ public final class EdgesOfYearsTest {
     }
 
     private static LaidQuarrel row(int word, int... row) {
-        LaidQuarrel x = one(6, 0, word, 0);
+        LaidQuarrel x = Tables.one(6, 0, word, 0);
         for (int k = 0; k < row.length; k++) {
             x.row(0, k, row[k]);
         }
@@ -230,12 +222,13 @@ public final class EdgesOfYearsTest {
     }
 
     private static void liesBest() {
-        Edge.of(TERMS, "LIES of one: the QUARTER (0 .. 3) by which, were it so now, it SAYS most (of several the first).");
-        Edge.due(one(0, 0, 20, 0), 0, "lies", 0);
-        Edge.due(one(3, 0, 20, 0), 0, "lies", 0);
-        Edge.due(one(3, 0, -20, 0), 1, "lies", 0);
-        Edge.due(one(3, 0, -20, 40), 0, "lies", 0);
-        Edge.due(one(3, 0, 0, 0), 0, "lies", 0);
+        Edge.of(TERMS, "LIES of one: the QUARTER (0 .. 3) by which, were it so now, it SAYS most (of several the "
+            + "first).");
+        Edge.due(Tables.one(0, 0, 20, 0), 0, "lies", 0);
+        Edge.due(Tables.one(3, 0, 20, 0), 0, "lies", 0);
+        Edge.due(Tables.one(3, 0, -20, 0), 1, "lies", 0);
+        Edge.due(Tables.one(3, 0, -20, 40), 0, "lies", 0);
+        Edge.due(Tables.one(3, 0, 0, 0), 0, "lies", 0);
         Edge.due(row(0, 9, 9, 9, 9), 0, "lies", 0);
         Edge.due(row(0, 8, 9, 9, 9), 1, "lies", 0);
         Edge.due(row(0, 8, 8, 9, 9), 2, "lies", 0);
@@ -246,7 +239,7 @@ public final class EdgesOfYearsTest {
         Edge.due(row(-20, 9, 1, 9, 1), 1, "lies", 0);
         Edge.due(row(-20, 9, 0, 9, 1), 3, "lies", 0);
         for (int q = 0; q < 4; q++) {
-            LaidQuarrel x = one(0, 0, -20, 20);
+            LaidQuarrel x = Tables.one(0, 0, -20, 20);
             x.set(0, 1, 3 - q);
             Edge.due(x, 0, "lies", 0);
             Edge.due(x, 3 - q, "of", 0, 4);
@@ -254,8 +247,12 @@ public final class EdgesOfYearsTest {
             Edge.due(x, q, "lies", 0);
             Edge.due(x, 3 - q, "of", 0, 4);
         }
-        LaidQuarrel empty = one(3, 0, -20, 0);
-        empty.guest(0);
+        for (String beyond : new String[] {"q=4", "q>3", "q>4"}) {
+            LaidQuarrel x = Tables.one(0, 0, -20, 20);
+            Check.read(x, "soften 2 " + beyond);
+            Edge.due(x, 0, "lies", 0);
+        }
+        LaidQuarrel empty = Tables.one(3, 0, -20, 0);
         empty.pour(0, 0);
         Edge.due(empty, 1, "lies", 0);
     }

@@ -1,7 +1,13 @@
 import java.io.IOException;
+import java.lang.reflect.Field;
+import java.lang.reflect.Method;
+import java.lang.reflect.Modifier;
 import java.nio.file.Files;
 import java.nio.file.Path;
+import java.util.ArrayList;
+import java.util.HashSet;
 import java.util.List;
+import java.util.Set;
 import java.util.regex.Matcher;
 import java.util.regex.Pattern;
 
@@ -45,7 +51,6 @@ public final class LanguageTest {
             if (lines[i].matches(" {4,8}\\}")) {
                 Check.holds("short: " + lines[from], i - from < 60);
             }
-            Check.holds("at most seven parameters: " + lines[i], lines[i].split(",", -1).length <= 12);
         }
     }
 
@@ -62,6 +67,41 @@ public final class LanguageTest {
         }
     }
 
+    private static void library(String text) {
+        Set<String> may = Set.of("Math.min", "Math.max", "Math.abs", "Integer.bitCount",
+            "Integer.numberOfTrailingZeros", "Long.MIN_VALUE");
+        Matcher found = Pattern.compile("\\b(Math|Integer|Long|System|Arrays|List|String|Character|Short|Byte|Boolean)"
+            + "\\.\\w+").matcher(text);
+        while (found.find()) {
+            Check.holds("of the library: " + found.group(), may.contains(found.group()));
+        }
+    }
+
+    private static void members() {
+        List<Class<?>> all = new ArrayList<>(List.of(LaidQuarrel.class.getDeclaredClasses()));
+        all.add(LaidQuarrel.class);
+        Set<String> face = new HashSet<>();
+        for (Method method : LaidQuarrel.class.getDeclaredMethods()) {
+            Check.holds("one method of a name: " + method.getName(), face.add(method.getName()));
+        }
+        for (Class<?> one : all) {
+            int fields = 0;
+            for (Field field : one.getDeclaredFields()) {
+                boolean isStatic = Modifier.isStatic(field.getModifiers());
+                fields += isStatic ? 0 : 1;
+                Check.holds("final, if static: " + field, !isStatic || Modifier.isFinal(field.getModifiers()));
+            }
+            Check.holds("some twenty fields: " + one, fields <= 20);
+            for (Method method : one.getDeclaredMethods()) {
+                Check.holds("at most seven parameters: " + method, method.getParameterCount() <= 7);
+            }
+            Check.holds("not public: " + one, one == LaidQuarrel.class || !Modifier.isPublic(one.getModifiers())
+                && !Modifier.isProtected(one.getModifiers()) && Modifier.isStatic(one.getModifiers()));
+            Check.due("classes inside " + one, one.getDeclaredClasses().length, one == LaidQuarrel.class
+                ? all.size() - 1 : 0);
+        }
+    }
+
     public static void main(String[] args) throws IOException {
         String whole = Files.readString(Path.of(args[0]));
         plainSigns(whole);
@@ -70,6 +110,8 @@ public final class LanguageTest {
         imports(text);
         shortMethods(whole.split("\n"));
         classes(text);
+        library(text);
+        members();
         Check.end("LanguageTest");
     }
 }

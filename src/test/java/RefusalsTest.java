@@ -185,8 +185,8 @@ public final class RefusalsTest {
             long want = facts.refusal(call, a);
             String name = call + java.util.Arrays.toString(a);
             if (want != FINE) {
-                Edge.of("Terms 3", "REFUSALS, of several the first one told: NONE there is no such BOTTLE, GUEST, KIND, "
-                    + "what, part, k, i; BAD a number is not as told, or two are one; STATE as told; FULL.");
+                Edge.of("Terms 3", "REFUSALS, of several the first one told: NONE there is no such BOTTLE, GUEST, "
+                    + "KIND, what, part, k, i; BAD a number is not as told, or two are one; STATE as told; FULL.");
                 Edge.due(asked, want, call, a);
             } else {
                 LaidQuarrel answers = ASKS.contains(call) ? asked : made.get();

@@ -30,10 +30,10 @@ final class Tables {
         x.row(0, 0, 8);
         x.set(2, 0, 45);
         x.see(0, 48, 0);
-        x.see(2, -58, 0);
+        x.see(2, -57, 0);
         x.evening(2, 0, 0);
         x.evening(1, 0, 1);
-        x.book(0, 48);
+        x.book(0, 46);
         x.book(2, -58);
         Check.read(x, "calm 1;soften 10 b=1;peace 9");
         x.feed('c');
@@ -84,6 +84,34 @@ final class Tables {
         x.bottle(0, 1, -30);
         x.guest(99);
         Check.read(x, "calm 1");
+        return x;
+    }
+
+    /** One of GUESTS with this MOOD, and BOTTLES of KIND 0 and of no YEARS, which SAY these. */
+    static LaidQuarrel saying(int mood, int... words) {
+        LaidQuarrel x = new LaidQuarrel();
+        for (int word : words) {
+            x.bottle(0, 0, word);
+        }
+        x.guest(mood);
+        return x;
+    }
+
+    /** BOTTLE 0 alone, and one of GUESTS with MOOD 0. */
+    static LaidQuarrel one(int kind, int v, int word, int years) {
+        LaidQuarrel x = new LaidQuarrel();
+        x.bottle(kind, v, word);
+        x.set(0, 0, years);
+        x.guest(0);
+        return x;
+    }
+
+    /** These BOTTLES are EMPTY then, by another one of GUESTS. */
+    static LaidQuarrel emptied(LaidQuarrel x, int... bottles) {
+        int guest = x.guest(0);
+        for (int b : bottles) {
+            x.pour(b, guest);
+        }
         return x;
     }
 }
