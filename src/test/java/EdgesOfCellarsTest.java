@@ -28,15 +28,15 @@ public final class EdgesOfCellarsTest {
         LaidQuarrel x = fed(hundred);
         Edge.due(x, LaidQuarrel.FULL, "feed", 'x');
         Edge.due(x, 0, "cellar");
-        LaidQuarrel many = read(hundred.replace("soften 1 b=1", "soften 1 b=x"));
+        LaidQuarrel many = new LaidQuarrel();
         many.bottle(0, 0, 0);
         many.set(0, 0, 100);
-        for (int c = 0; c < 5; c++) {
-            hundred.replace("|b=1|b=1", "|b=0|b=x").chars().forEach(many::feed);
-            Edge.due(many, -10 - 19, "cellar");
-            hundred.replace("|b=1|b=1", c == 2 ? "|b=2|b=1" : "|b=0|b=1").chars().forEach(many::feed);
+        for (int c = 0; c < 2; c++) {
+            (hundred.substring(0, 99) + "x").chars().forEach(many::feed);
+            Edge.due(many, -10 - 99, "cellar");
+            hundred.replace("|b=1|b=1", c == 0 ? "|b=0|b=1" : "|b=2|b=1").chars().forEach(many::feed);
             Edge.due(many, c, "cellar");
-            Edge.due(many, c == 2 ? 50 : 55, "of", 0, 6);
+            Edge.due(many, c == 0 ? 55 : 50, "of", 0, 6);
         }
         Edge.fault(1, "c");
         Edge.fault(0, "\0");

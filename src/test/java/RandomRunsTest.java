@@ -178,7 +178,7 @@ public final class RandomRunsTest {
     }
 
     public static void main(String[] args) {
-        for (int r = 0; r < 1500; r++) {
+        for (int r = 0; r < 2200; r++) {
             LaidQuarrel x = new LaidQuarrel();
             Model m = new Model();
             if (dice(5) > 0) {
@@ -193,7 +193,7 @@ public final class RandomRunsTest {
                     Check.due("guest", x.guest(mood), m.guest(mood));
                 }
             }
-            for (int calls = 20; calls < 400; calls++) {
+            for (int calls = 20; calls < 270; calls++) {
                 String run = "run " + r + " call " + calls + ": ";
                 if (dice(60) == 0) {
                     calls += feedText(x, m);

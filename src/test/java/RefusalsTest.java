@@ -74,11 +74,22 @@ public final class RefusalsTest {
         return calls;
     }
 
-    private final LaidQuarrel x;
+    // how all is, as refusals have to know it
+    private final int[] counts = new int[8];
+    private final int[] kinds = new int[6];
+    private final int full;
+    private final int year;
     private final boolean imaged;
 
-    private RefusalsTest(Supplier<LaidQuarrel> made, boolean imaged) {
-        x = made.get();
+    private RefusalsTest(LaidQuarrel x, boolean imaged) {
+        for (int what = 0; what < counts.length; what++) {
+            counts[what] = x.count(what);
+        }
+        for (int b = 0; b < counts[0]; b++) {
+            kinds[b] = x.of(b, 0);
+        }
+        full = x.told(3);
+        year = x.told(0);
         this.imaged = imaged;
     }
 
@@ -87,35 +98,35 @@ public final class RefusalsTest {
     }
 
     private boolean bottle(int b) {
-        return in(b, 0, x.count(0) - 1);
+        return in(b, 0, counts[0] - 1);
     }
 
     private boolean guest(int g) {
-        return in(g, 0, x.count(7) - 1);
+        return in(g, 0, counts[7] - 1);
     }
 
     private boolean isEmpty(int b) {
-        return x.of(b, 5) == 1;
+        return (full >> b & 1) == 0;
     }
 
     /** The first refusal told, or FINE. */
     private long refusal(String call, int[] a) {
         switch (call) {
-            case "feed": return !in(a[0], 0, 127) ? BAD : x.count(5) == 100 ? FULL : FINE;
-            case "cellar": return x.count(1) == 5 ? FULL : FINE;
+            case "feed": return !in(a[0], 0, 127) ? BAD : counts[5] == 100 ? FULL : FINE;
+            case "cellar": return counts[1] == 5 ? FULL : FINE;
             case "bottle": return !in(a[0], 0, 6) ? NONE : !in(a[1], 0, 9) || !in(a[2], -99, 99) ? BAD
-                : x.count(0) == 6 ? FULL : FINE;
-            case "guest": return !in(a[0], -99, 99) ? BAD : x.count(7) == 4 ? FULL : FINE;
+                : counts[0] == 6 ? FULL : FINE;
+            case "guest": return !in(a[0], -99, 99) ? BAD : counts[7] == 4 ? FULL : FINE;
             case "of": return !bottle(a[0]) || !in(a[1], 0, 7) ? FAR_NONE : FINE;
             case "row": return !bottle(a[0]) || !in(a[1], 0, 3) ? NONE : !in(a[2], 0, 9) ? BAD
-                : x.of(a[0], 0) != 6 ? STATE : FINE;
+                : kinds[a[0]] != 6 ? STATE : FINE;
             case "set": return !bottle(a[0]) || !in(a[1], 0, 1) ? NONE : !in(a[2], 0, a[1] == 0 ? 199 : 3) ? BAD : FINE;
             case "mood": return !guest(a[0]) ? FAR_NONE : FINE;
             case "told": return !in(a[0], 0, 5) ? FAR_NONE : FINE;
             case "pour": return !bottle(a[0]) || !guest(a[1]) ? FAR_NONE : isEmpty(a[0]) ? FAR_STATE : FINE;
             case "both": return !bottle(a[0]) || !bottle(a[1]) || !guest(a[2]) ? FAR_NONE : a[0] == a[1] ? FAR_BAD
                 : isEmpty(a[0]) || isEmpty(a[1]) ? FAR_STATE : FINE;
-            case "pass": return !in(a[0], 0, 60) ? BAD : x.told(0) + a[0] > 9999 ? STATE : FINE;
+            case "pass": return !in(a[0], 0, 60) ? BAD : year + a[0] > 9999 ? STATE : FINE;
             case "on": return !ofAll(a[1]) ? FAR_NONE : !in(a[0], 0, 60) ? FAR_BAD : FINE;
             case "when": return !bottle(a[0]) || !in(a[1], 0, 1) ? FAR_NONE : FINE;
             case "ripe": case "lies": return !bottle(a[0]) ? NONE : FINE;
@@ -134,17 +145,17 @@ public final class RefusalsTest {
             case "match": return a[0] != 0 && !(in(a[0], 10, 15) && bottle(a[0] - 10)) ? NONE : FINE;
             case "words": return !bottle(a[0]) || !in(a[2], 0, 1) ? FAR_NONE : !in(a[1], -999, 999) ? FAR_BAD : FINE;
             case "see": return a[0] == -1 ? FINE : !bottle(a[0]) ? NONE
-                : !in(a[1], -999, 999) || !in(a[2], 0, 20) ? BAD : x.count(2) == 5 ? FULL : FINE;
+                : !in(a[1], -999, 999) || !in(a[2], 0, 20) ? BAD : counts[2] == 5 ? FULL : FINE;
             case "old": case "firm": return !bottle(a[0]) || !in(a[1], 0, 1) ? NONE : FINE;
             case "whose": return !in(a[0], -999, 999) || !in(a[1], 0, 40) ? BAD : FINE;
-            case "odds": return !guest(a[0]) || !in(a[1], -99, 99) || !in(a[2], 0, 1) || x.told(3) == 0 ? NO : FINE;
-            case "mean": return !in(a[0], 0, 60) || !in(a[1], 0, 1) || x.told(3) == 0 ? NO : FINE;
+            case "odds": return !guest(a[0]) || !in(a[1], -99, 99) || !in(a[2], 0, 1) || full == 0 ? NO : FINE;
+            case "mean": return !in(a[0], 0, 60) || !in(a[1], 0, 1) || full == 0 ? NO : FINE;
             case "evening": return a[0] == -1 ? FINE : !in(a[0], 0, 3) || a[0] != 0 && !bottle(a[1])
-                || a[0] == 1 && !guest(a[2]) ? NONE : x.count(3) == 8 ? FULL : FINE;
+                || a[0] == 1 && !guest(a[2]) ? NONE : counts[3] == 8 ? FULL : FINE;
             case "done": return !in(a[0], 0, 1) ? FAR_NONE : FINE;
             case "book": return a[0] == -1 ? FINE : !bottle(a[0]) ? NONE : !in(a[1], -999, 999) ? BAD
-                : x.count(4) == 8 ? FULL : FINE;
-            case "trace": return !in(a[0], 0, x.count(6) - 1) ? NONE : FINE;
+                : counts[4] == 8 ? FULL : FINE;
+            case "trace": return !in(a[0], 0, counts[6] - 1) ? NONE : FINE;
             case "as": return !bottle(a[0]) || !in(a[1], 0, 6) ? NONE : FINE;
             case "undo": return imaged ? FINE : STATE;
             case "count": return !in(a[0], 0, 7) ? NONE : FINE;
@@ -177,7 +188,7 @@ public final class RefusalsTest {
     }
 
     private static void look(Supplier<LaidQuarrel> made, boolean imaged, String call, int[][] numbers) {
-        RefusalsTest facts = new RefusalsTest(made, imaged);
+        RefusalsTest facts = new RefusalsTest(made.get(), imaged);
         String whole = Whole.of(made.get());
         LaidQuarrel asked = made.get();
         int calls = 0;
